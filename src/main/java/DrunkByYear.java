@@ -999,7 +999,7 @@ public final class DrunkByYear {
         /** By person, the choices that are looked at, as bits. */
         private final int[] may = new int[PEOPLE];
         private final int[] left = new int[CHOICES], seat = new int[PEOPLE], bestSeat = new int[PEOPLE];
-        /** By person: how many from there on must have one, and how bold those are at most. */
+        /** By person: how many from there on have one at least, at the least cost, and how bold those are at most. */
         private final int[] havingAhead = new int[PEOPLE + 1], nerveAhead = new int[PEOPLE + 1];
         /** By person: an age that one from there on has at most, and one that one has at least. */
         private final int[] lowAhead = new int[PEOPLE + 1], highAhead = new int[PEOPLE + 1];
@@ -1084,7 +1084,9 @@ public final class DrunkByYear {
                     oldest = Math.max(oldest, age[p][c]);
                 }
             }
-            havingAhead[p] = havingAhead[p + 1] + ((may[p] & 1) == 0 ? 1 : 0);
+            // Where it costs as little as it can, one that can be bolder by wine has some.
+            boolean has = aim == ALL_BOLD ? may[p] != 1 : (may[p] & 1) == 0;
+            havingAhead[p] = havingAhead[p + 1] + (has ? 1 : 0);
             nerveAhead[p] = nerveAhead[p + 1] + boldest;
             lowAhead[p] = Math.min(lowAhead[p + 1], oldest);
             highAhead[p] = Math.max(highAhead[p + 1], youngest);

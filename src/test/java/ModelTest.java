@@ -713,7 +713,7 @@ public final class ModelTest {
     static String factor(int depth) {
         if (depth < 5 && next(3) == 0) return "!(" + expression(depth + 1) + ")";
         char letter = "pkvash".charAt(next(6));
-        int most = letter == 'a' ? 13 : letter == 'v' ? 10 : letter == 's' ? 4 : 7;
+        int most = letter == 'a' ? 13 : letter == 'v' || letter == 'h' ? 10 : letter == 's' ? 4 : 7;
         return letter + "" + "<=>".charAt(next(3)) + number(most);
     }
 
