@@ -733,8 +733,8 @@ public final class ModelTest {
             int at = next(text.length());
             int way = next(3);
             if (way == 0) text.deleteCharAt(at);
-            if (way == 1) text.insert(at, "01!( )&|;p=gobm".charAt(next(15)));
-            if (way == 2) text.setCharAt(at, "01!( )&|;p=gobm".charAt(next(15)));
+            if (way == 1) text.insert(at, "01!( )&|;p=gobm/:".charAt(next(17)));
+            if (way == 2) text.setCharAt(at, "01!( )&|;p=gobm/:".charAt(next(17)));
         }
         return text.length() > 100 && next(8) > 0 ? clause() : text.toString();
     }

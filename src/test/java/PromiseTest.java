@@ -121,6 +121,10 @@ public final class PromiseTest {
         is(firstVillage("grown 700"), -18);
         is(firstVillage("grown 7 "), -17);
         is(firstVillage("old -1"), -14);
+        is(firstVillage("old /"), -14);
+        is(firstVillage("old :"), -14);
+        is(firstVillage("old 1/"), -15);
+        is(firstVillage("old 1:"), -15);
         is(firstVillage("old 1;;old 2"), -16);
         is(firstVillage("old 1; old 2"), -16);
         is(firstVillage(";old 1"), -10);
@@ -169,6 +173,13 @@ public final class PromiseTest {
         is(hundred.length(), 100);
         is(firstVillage(hundred), 0);
         is(firstVillage(hundred.substring(0, 99) + "|"), -110);
+        x = new DrunkByYear();
+        x.person(0, 0, 60, 90);
+        for (int i = 0; i < 3; i++) {
+            is(village(hundred.substring(0, 99) + "|"), -110);
+        }
+        is(village("bold 7 p=1|p=2|p=3|p=4|p=5;bold 5 p=0"), 0);
+        is(x.of(0, 8), 15);
         x = new DrunkByYear();
         x.feed(0);
         is(x.village(), -10);
