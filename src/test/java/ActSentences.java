@@ -1,3 +1,5 @@
+import java.util.function.Consumer;
+
 /** Promises 33 to 38: acts, the image. */
 final class ActSentences extends Sentences {
 
@@ -270,18 +272,12 @@ final class ActSentences extends Sentences {
 
     @Says("NONE: person, k")
     void p35_noSuchPerson() {
-        unchanged(x -> x.as(-1, 0), NONE);
-        unchanged(x -> x.as(4, 0), NONE);
-        unchanged(x -> x.as(MIN, 0), NONE);
-        unchanged(x -> x.as(MAX, 0), NONE);
+        noSuch(4, (x, n) -> x.as(n, 0), NONE);
     }
 
     @Says("NONE: person, k")
     void p35_noSuchKind() {
-        unchanged(x -> x.as(0, -1), NONE);
-        unchanged(x -> x.as(0, 7), NONE);
-        unchanged(x -> x.as(2, MIN), NONE);
-        unchanged(x -> x.as(2, MAX), NONE);
+        noSuch(7, (x, n) -> x.as(0, n), NONE);
     }
 
     @Says("-6: it is of another KIND.")
@@ -348,8 +344,6 @@ final class ActSentences extends Sentences {
     void p36_changesNothingElse() {
         DrunkByYear asked = rich(), left = rich();
         is(asked.image(), 4);
-        left.undo();
-        left = rich();
         for (int what = 0; what <= 7; what++) {
             is(asked.count(what), left.count(what));
         }
@@ -386,7 +380,7 @@ final class ActSentences extends Sentences {
     }
 
     /** Whatever is done behind an image, an undo takes it back. */
-    private void takesBack(java.util.function.Consumer<DrunkByYear> done) {
+    private void takesBack(Consumer<DrunkByYear> done) {
         unchanged(() -> {
             DrunkByYear x = rich();
             x.image();
@@ -567,10 +561,7 @@ final class ActSentences extends Sentences {
 
     @Says("NONE.")
     void p38_noSuchWhat() {
-        unchanged(x -> x.count(-1), NONE);
-        unchanged(x -> x.count(8), NONE);
-        unchanged(x -> x.count(MIN), NONE);
-        unchanged(x -> x.count(MAX), NONE);
+        noSuch(8, (x, n) -> x.count(n), NONE);
     }
 
     @Says("0 PEOPLE, 1 VILLAGES, 2 of SEEN, 3 of the NIGHT, 4 rows of BOOK, 5 signs of THE TAPE")

@@ -89,10 +89,7 @@ final class HereSentences extends Sentences {
 
     @Says("BRINGS (bits). NONE.")
     void p16_noSuchPerson() {
-        unchanged(x -> x.brings(-1), NONE);
-        unchanged(x -> x.brings(4), NONE);
-        unchanged(x -> x.brings(MIN), NONE);
-        unchanged(x -> x.brings(MAX), NONE);
+        noSuch(4, (x, n) -> x.brings(n), NONE);
         is(x.brings(0), NONE);
     }
 
@@ -142,10 +139,7 @@ final class HereSentences extends Sentences {
 
     @Says("NONE; BAD: n.")
     void p17_noSuchPerson() {
-        unchanged(x -> x.nearest(-1, 0), NONE);
-        unchanged(x -> x.nearest(4, 0), NONE);
-        unchanged(x -> x.nearest(MIN, 0), NONE);
-        unchanged(x -> x.nearest(MAX, 0), NONE);
+        noSuch(4, (x, n) -> x.nearest(n, 0), NONE);
     }
 
     @Says("NONE; BAD: n.")
@@ -353,10 +347,7 @@ final class HereSentences extends Sentences {
 
     @Says("NONE; BAD: one is both.")
     void p19_noSuchWhat() {
-        unchanged(x -> x.meet(0, 1, -1), NONE);
-        unchanged(x -> x.meet(0, 1, 2), NONE);
-        unchanged(x -> x.meet(0, 1, MIN), NONE);
-        unchanged(x -> x.meet(0, 1, MAX), NONE);
+        noSuch(2, (x, n) -> x.meet(0, 1, n), NONE);
     }
 
     @Says("NONE; BAD: one is both.")

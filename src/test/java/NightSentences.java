@@ -57,26 +57,17 @@ final class NightSentences extends Sentences {
 
     @Says("NONE: what, person (but by 0), vintage (by 1)")
     void p29_noSuchPersonByOne() {
-        unchanged(x -> x.night(1, -1, 0), NONE);
-        unchanged(x -> x.night(1, 4, 0), NONE);
-        unchanged(x -> x.night(1, MIN, 0), NONE);
-        unchanged(x -> x.night(1, MAX, 0), NONE);
+        noSuch(4, (x, n) -> x.night(1, n, 0), NONE);
     }
 
     @Says("NONE: what, person (but by 0), vintage (by 1)")
     void p29_noSuchPersonByTwo() {
-        unchanged(x -> x.night(2, -1, 0), NONE);
-        unchanged(x -> x.night(2, 4, 0), NONE);
-        unchanged(x -> x.night(2, MIN, 0), NONE);
-        unchanged(x -> x.night(2, MAX, 0), NONE);
+        noSuch(4, (x, n) -> x.night(2, n, 0), NONE);
     }
 
     @Says("NONE: what, person (but by 0), vintage (by 1)")
     void p29_noSuchVintageByOne() {
-        unchanged(x -> x.night(1, 0, -1), NONE);
-        unchanged(x -> x.night(1, 0, 3), NONE);
-        unchanged(x -> x.night(1, 0, MIN), NONE);
-        unchanged(x -> x.night(1, 0, MAX), NONE);
+        noSuch(3, (x, n) -> x.night(1, 0, n), NONE);
     }
 
     @Says("0 a DAWN (the others not looked at)")
@@ -144,10 +135,7 @@ final class NightSentences extends Sentences {
 
     @Says("DONE: what 0 how many are HERE, 1 NERVE. NONE.")
     void p30_noSuchWhat() {
-        unchanged(x -> x.done(-1), NONE);
-        unchanged(x -> x.done(2), NONE);
-        unchanged(x -> x.done(MIN), NONE);
-        unchanged(x -> x.done(MAX), NONE);
+        noSuch(2, (x, n) -> x.done(n), NONE);
     }
 
     @Says("DONE: how many are HERE; NERVE of all, together.")

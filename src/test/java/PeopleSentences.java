@@ -259,20 +259,14 @@ final class PeopleSentences extends Sentences {
 
     @Says("-10001: NONE.")
     void p06_noSuchPerson() {
-        unchanged(x -> x.of(-1, 0), UNKNOWN);
-        unchanged(x -> x.of(4, 0), UNKNOWN);
-        unchanged(x -> x.of(MIN, 0), UNKNOWN);
-        unchanged(x -> x.of(MAX, 0), UNKNOWN);
+        noSuch(4, (x, n) -> x.of(n, 0), UNKNOWN);
         unchanged(PeopleSentences::sixPeople, x -> x.of(6, 0), UNKNOWN);
         is(x.of(0, 0), UNKNOWN);
     }
 
     @Says("-10001: NONE.")
     void p06_noSuchWhat() {
-        unchanged(x -> x.of(0, -1), UNKNOWN);
-        unchanged(x -> x.of(0, 9), UNKNOWN);
-        unchanged(x -> x.of(0, MIN), UNKNOWN);
-        unchanged(x -> x.of(0, MAX), UNKNOWN);
+        noSuch(9, (x, n) -> x.of(0, n), UNKNOWN);
     }
 
     @Says("Of a PERSON what 0 KIND, 1 v, 2 BORN, 3 LIFE")
@@ -704,18 +698,12 @@ final class PeopleSentences extends Sentences {
 
     @Says("NONE: person, k")
     void p07_noSuchPerson() {
-        unchanged(x -> x.row(-1, 0, 1), NONE);
-        unchanged(x -> x.row(4, 0, 1), NONE);
-        unchanged(x -> x.row(MIN, 0, 1), NONE);
-        unchanged(x -> x.row(MAX, 0, 1), NONE);
+        noSuch(4, (x, n) -> x.row(n, 0, 1), NONE);
     }
 
     @Says("NONE: person, k")
     void p07_noSuchK() {
-        unchanged(x -> x.row(2, -1, 1), NONE);
-        unchanged(x -> x.row(2, 4, 1), NONE);
-        unchanged(x -> x.row(2, MIN, 1), NONE);
-        unchanged(x -> x.row(2, MAX, 1), NONE);
+        noSuch(4, (x, n) -> x.row(2, n, 1), NONE);
     }
 
     @Says("BAD;")
@@ -760,20 +748,14 @@ final class PeopleSentences extends Sentences {
 
     @Says("Of a VINTAGE what 0 its year, 1 BOTTLES. NONE.")
     void p08_noSuchVintage() {
-        unchanged(x -> x.wine(-1, 0), NONE);
-        unchanged(x -> x.wine(3, 0), NONE);
-        unchanged(x -> x.wine(MIN, 1), NONE);
-        unchanged(x -> x.wine(MAX, 1), NONE);
+        noSuch(3, (x, n) -> x.wine(n, 0), NONE);
         unchanged(PeopleSentences::fiveVintages, x -> x.wine(5, 0), NONE);
         is(x.wine(0, 0), NONE);
     }
 
     @Says("Of a VINTAGE what 0 its year, 1 BOTTLES. NONE.")
     void p08_noSuchWhat() {
-        unchanged(x -> x.wine(0, -1), NONE);
-        unchanged(x -> x.wine(0, 2), NONE);
-        unchanged(x -> x.wine(0, MIN), NONE);
-        unchanged(x -> x.wine(0, MAX), NONE);
+        noSuch(2, (x, n) -> x.wine(0, n), NONE);
     }
 
     @Says("Of a VINTAGE what 0 its year, 1 BOTTLES. NONE.")
@@ -799,10 +781,7 @@ final class PeopleSentences extends Sentences {
 
     @Says("NONE; BAD.")
     void p09_noSuchVintage() {
-        unchanged(x -> x.stock(-1, 0), NONE);
-        unchanged(x -> x.stock(3, 0), NONE);
-        unchanged(x -> x.stock(MIN, 0), NONE);
-        unchanged(x -> x.stock(MAX, 0), NONE);
+        noSuch(3, (x, n) -> x.stock(n, 0), NONE);
         is(x.stock(0, 0), NONE);
     }
 
@@ -856,10 +835,7 @@ final class PeopleSentences extends Sentences {
 
     @Says("NONE.")
     void p10_noSuchWhat() {
-        unchanged(x -> x.told(-1), NONE);
-        unchanged(x -> x.told(6), NONE);
-        unchanged(x -> x.told(MIN), NONE);
-        unchanged(x -> x.told(MAX), NONE);
+        noSuch(6, (x, n) -> x.told(n), NONE);
     }
 
     @Says("What 0 YEAR, 1 GROWN, 2 OLD, 3 who is HERE (bits), 4 NERVE of all, 5 BOTTLES in all.")
@@ -875,18 +851,12 @@ final class PeopleSentences extends Sentences {
 
     @Says("NONE; STATE: it has no BOTTLES.")
     void p11_noSuchPerson() {
-        unchanged(x -> x.pour(-1, 0), NONE);
-        unchanged(x -> x.pour(4, 0), NONE);
-        unchanged(x -> x.pour(MIN, 0), NONE);
-        unchanged(x -> x.pour(MAX, 0), NONE);
+        noSuch(4, (x, n) -> x.pour(n, 0), NONE);
     }
 
     @Says("NONE; STATE: it has no BOTTLES.")
     void p11_noSuchVintage() {
-        unchanged(x -> x.pour(0, -1), NONE);
-        unchanged(x -> x.pour(0, 3), NONE);
-        unchanged(x -> x.pour(0, MIN), NONE);
-        unchanged(x -> x.pour(0, MAX), NONE);
+        noSuch(3, (x, n) -> x.pour(0, n), NONE);
     }
 
     @Says("STATE: it has no BOTTLES.")
@@ -987,10 +957,7 @@ final class PeopleSentences extends Sentences {
 
     @Says("NONE.")
     void p12_noSuchPerson() {
-        unchanged(x -> x.dry(-1), NONE);
-        unchanged(x -> x.dry(4), NONE);
-        unchanged(x -> x.dry(MIN), NONE);
-        unchanged(x -> x.dry(MAX), NONE);
+        noSuch(4, (x, n) -> x.dry(n), NONE);
         is(x.dry(0), NONE);
     }
 

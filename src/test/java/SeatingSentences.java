@@ -314,21 +314,36 @@ final class SeatingSentences extends Sentences {
 
     @Says("of these in which fewest HAVE one, the first: how much; what each HAS")
     void p21_fewestBehindThoseInWhichMoreHaveOne() {
-        x.person(0, 0, 90, 90);
-        x.person(0, 0, 80, 90);
-        x.person(0, 0, 80, 90);
-        x.person(0, 0, 110, 90);
-        x.vintage(90, 9);
-        x.vintage(110, 9);
-        x.vintage(120, 9);
-        x.vintage(130, 9);
-        // All are 10 by (none, 0, 0, 2), all are 20 by (1, none, none, 3).
-        close(0, 1, NOTHING, NOTHING, 3);
-        x.image();
-        times(2, () -> x.person(0, 0, 110, 90));
-        close(0, 1, NOTHING, NOTHING, 3, 3, 3);
-        x.undo();
-        close(0, 1, NOTHING, NOTHING, 3);
+        for (int ahead = 0; ahead <= 1; ahead++) {
+            x = new DrunkByYear();
+            x.person(0, 0, 90, 90);
+            x.person(0, 0, 80, 90);
+            x.person(0, 0, 80, 90);
+            x.person(0, 0, 110, 90);
+            times(ahead, () -> x.vintage(0, 0));
+            x.vintage(90, 9);
+            x.vintage(110, 9);
+            x.vintage(120, 9);
+            x.vintage(130, 9);
+            int second = ahead + 1, last = ahead + 3;
+            // All are 10 by (none, the first, the first, the third), all are 20 by (the second, none, none, the last).
+            close(0, second, NOTHING, NOTHING, last);
+            x.image();
+            times(2, () -> x.person(0, 0, 110, 90));
+            close(0, second, NOTHING, NOTHING, last, last, last);
+            x.undo();
+            close(0, second, NOTHING, NOTHING, last);
+        }
+    }
+
+    @Says("of those by which the greatest AGE less the least is least")
+    void p21_askedAgainWithMoreWine() {
+        x.person(0, 0, 75, 90);
+        x.person(0, 0, 40, 90);
+        close(35, NOTHING, NOTHING);
+        x.vintage(60, 1);
+        x.vintage(95, 1);
+        close(0, 1, 0);
     }
 
     @Says("of these in which fewest HAVE one, the first: how much; what each HAS")

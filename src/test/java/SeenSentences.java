@@ -104,10 +104,7 @@ final class SeenSentences extends Sentences {
 
     @Says("DRANK (bits). NONE.")
     void p24_noSuchPerson() {
-        unchanged(x -> x.drank(-1), NONE);
-        unchanged(x -> x.drank(4), NONE);
-        unchanged(x -> x.drank(MIN), NONE);
-        unchanged(x -> x.drank(MAX), NONE);
+        noSuch(4, (x, n) -> x.drank(n), NONE);
         is(x.drank(0), NONE);
     }
 
@@ -179,18 +176,12 @@ final class SeenSentences extends Sentences {
 
     @Says("BIRTH: what 0 how many, 1 the least; -5. NONE.")
     void p25_noSuchPerson() {
-        unchanged(x -> x.birth(-1, 0), NONE);
-        unchanged(x -> x.birth(4, 0), NONE);
-        unchanged(x -> x.birth(MIN, 1), NONE);
-        unchanged(x -> x.birth(MAX, 1), NONE);
+        noSuch(4, (x, n) -> x.birth(n, 0), NONE);
     }
 
     @Says("BIRTH: what 0 how many, 1 the least; -5. NONE.")
     void p25_noSuchWhat() {
-        unchanged(x -> x.birth(0, -1), NONE);
-        unchanged(x -> x.birth(0, 2), NONE);
-        unchanged(x -> x.birth(0, MIN), NONE);
-        unchanged(x -> x.birth(0, MAX), NONE);
+        noSuch(2, (x, n) -> x.birth(0, n), NONE);
     }
 
     @Says("how many years (0 .. 199) there are by which, were it BORN then, likewise as it HAS now")
@@ -255,18 +246,12 @@ final class SeenSentences extends Sentences {
 
     @Says("FIRM: what 0 how many, 1 the least; -5. NONE.")
     void p26_noSuchPerson() {
-        unchanged(x -> x.firm(-1, 0), NONE);
-        unchanged(x -> x.firm(4, 0), NONE);
-        unchanged(x -> x.firm(MIN, 1), NONE);
-        unchanged(x -> x.firm(MAX, 1), NONE);
+        noSuch(4, (x, n) -> x.firm(n, 0), NONE);
     }
 
     @Says("FIRM: what 0 how many, 1 the least; -5. NONE.")
     void p26_noSuchWhat() {
-        unchanged(x -> x.firm(0, -1), NONE);
-        unchanged(x -> x.firm(0, 2), NONE);
-        unchanged(x -> x.firm(0, MIN), NONE);
-        unchanged(x -> x.firm(0, MAX), NONE);
+        noSuch(2, (x, n) -> x.firm(0, n), NONE);
     }
 
     @Says("how many numbers v (0 .. 9), likewise")
@@ -359,26 +344,17 @@ final class SeenSentences extends Sentences {
 
     @Says("NO: person, stage, part, no BOTTLES.")
     void p27_noSuchPerson() {
-        unchanged(x -> x.odds(-1, 0, 0), NO);
-        unchanged(x -> x.odds(4, 0, 0), NO);
-        unchanged(x -> x.odds(MIN, 0, 1), NO);
-        unchanged(x -> x.odds(MAX, 0, 1), NO);
+        noSuch(4, (x, n) -> x.odds(n, 0, 0), NO);
     }
 
     @Says("NO: person, stage, part, no BOTTLES.")
     void p27_noSuchStage() {
-        unchanged(x -> x.odds(0, -1, 0), NO);
-        unchanged(x -> x.odds(0, 4, 0), NO);
-        unchanged(x -> x.odds(0, MIN, 0), NO);
-        unchanged(x -> x.odds(0, MAX, 1), NO);
+        noSuch(4, (x, n) -> x.odds(0, n, 0), NO);
     }
 
     @Says("part 0 above, 1 below the line")
     void p27_noSuchPart() {
-        unchanged(x -> x.odds(0, 0, -1), NO);
-        unchanged(x -> x.odds(0, 0, 2), NO);
-        unchanged(x -> x.odds(0, 0, MIN), NO);
-        unchanged(x -> x.odds(0, 0, MAX), NO);
+        noSuch(2, (x, n) -> x.odds(0, 0, n), NO);
     }
 
     @Says("NO: person, stage, part, no BOTTLES.")
@@ -466,10 +442,7 @@ final class SeenSentences extends Sentences {
 
     @Says("MEAN. NO: part, nobody is HERE.")
     void p28_noSuchPart() {
-        unchanged(x -> x.mean(-1), NO);
-        unchanged(x -> x.mean(2), NO);
-        unchanged(x -> x.mean(MIN), NO);
-        unchanged(x -> x.mean(MAX), NO);
+        noSuch(2, (x, n) -> x.mean(n), NO);
     }
 
     @Says("MEAN. NO: part, nobody is HERE.")

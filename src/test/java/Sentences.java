@@ -92,7 +92,7 @@ abstract class Sentences {
         return x;
     }
 
-    /** All that can be asked, and then what is left of the tape and of the image: it changes what it asks. */
+    /** All that can be asked, and then what the tape and the image hold: it changes what it asks. */
     static List<Long> all(DrunkByYear x) {
         List<Long> all = new ArrayList<>();
         world(x, all);
@@ -104,9 +104,11 @@ abstract class Sentences {
             all.add((long) x.birth(p, 0));
             all.add((long) x.birth(p, 1));
             all.add((long) x.firm(p, 0));
-            all.add((long) x.row(p, 0, 0));
-            all.add((long) x.row(p, 3, 0));
+            for (int k = 0; k <= 3; k++) {
+                all.add((long) x.row(p, k, 0));
+            }
         }
+        all.add((long) x.dawn(1));
         feed(x, "5");
         all.add((long) x.village());
         world(x, all);
@@ -146,5 +148,16 @@ abstract class Sentences {
 
     final void unchanged(ToLongFunction<DrunkByYear> call, long answer) {
         unchanged(Sentences::rich, call, answer);
+    }
+
+    interface Asked {
+        long ask(DrunkByYear x, int n);
+    }
+
+    /** Of what is numbered from 0 on there are so many: with any other number the call is refused so. */
+    final void noSuch(int many, Asked call, long answer) {
+        for (int n : new int[] {-1, many, MIN, MAX}) {
+            unchanged(x -> call.ask(x, n), answer);
+        }
     }
 }

@@ -8,6 +8,7 @@ import java.util.ArrayList;
 import java.util.Arrays;
 import java.util.Comparator;
 import java.util.List;
+import java.util.function.Consumer;
 
 /** Runs the tests of single sentences, and looks whether they quote the document, and leave nothing of it out. */
 public final class SentencesTest {
@@ -57,6 +58,26 @@ public final class SentencesTest {
         }
     }
 
+    // ---- what is taken for unchanged
+
+    /** None of what calls change may be overlooked by what says that a call changes nothing. */
+    static void overlooksNothing() {
+        List<Consumer<DrunkByYear>> changes = List.of(x -> x.feed('1'), x -> x.feed('x'), x -> x.village(),
+            x -> x.person(0, 0, 0, 0), x -> x.vintage(0, 0), x -> x.row(2, 0, 1), x -> x.row(2, 1, 1), x -> x.row(2, 2, 1),
+            x -> x.row(2, 3, 1), x -> x.stock(0, 9), x -> x.stock(2, 1), x -> x.pour(1, 0), x -> x.pour(0, 0), x -> x.dry(0),
+            x -> x.dry(2), x -> x.dawn(1), x -> x.blend(0, 1), x -> x.see(2, 45), x -> x.see(-1, 0), x -> x.night(0, 0, 0),
+            x -> x.night(-1, 0, 0), x -> x.book(0, 30), x -> x.book(-1, 0), x -> x.act(0, 0, 0), x -> x.act(9, 0, 0),
+            x -> x.image(), x -> x.undo());
+        List<Long> left = Sentences.all(Sentences.rich());
+        for (int i = 0; i < changes.size(); i++) {
+            DrunkByYear x = Sentences.rich();
+            changes.get(i).accept(x);
+            if (Sentences.all(x).equals(left)) {
+                say("change " + i + " is overlooked");
+            }
+        }
+    }
+
     // ---- the document
 
     static String plain(String text) {
@@ -102,12 +123,18 @@ public final class SentencesTest {
     /** With a word, only the tests whose names begin with it. */
     public static void main(String[] args) throws Exception {
         find();
+        overlooksNothing();
         for (Method test : tests) {
             if (args.length == 0 || test.getName().startsWith(args[0])) {
                 run(test);
             }
         }
-        quotes(new String(Files.readAllBytes(Path.of("../shared/DOC.md")), StandardCharsets.UTF_8));
+        Path document = Path.of("../shared/DOC.md");
+        if (Files.exists(document)) {
+            quotes(new String(Files.readAllBytes(document), StandardCharsets.UTF_8));
+        } else {
+            System.out.println("there is no document here: what the tests quote is not looked at");
+        }
         System.out.println(tests.size() + " tests of sentences, " + (wrong == 0 ? "all hold" : wrong + " wrong"));
         if (wrong != 0) System.exit(1);
     }
