@@ -1153,7 +1153,7 @@ public final class DrunkByYear {
         private int ran;
 
         /** What one's act by the body of a kind, or of the next above that has one, answers. */
-        int perform(Person one, int act, int kind, int x, int depth) {
+        private int perform(Person one, int act, int kind, int x, int depth) {
             int at = kind;
             for (int up = 0; up < ABOVE.length && at > PERSON && BODY[3 * at + act] == 0; up++) {
                 at = ABOVE[at];
